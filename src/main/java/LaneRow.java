@@ -862,8 +862,8 @@ public final class LaneRow {
 
         /** From ahead of all (NONE) one stays in a LANE behind a step; from a FINGER one climbs. */
         void go(Towers row, int[] towers, int start, int key) {
-            boolean climbs = start != NONE;
-            int at = start;
+            boolean climbs = start >= 0 && start < row.size;
+            int at = climbs ? start : NONE;
             int level = (climbs ? towers[start] : row.highestOf(towers)) - 1;
             number = NONE;
             lane = NONE;

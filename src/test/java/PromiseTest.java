@@ -331,7 +331,7 @@ public final class PromiseTest {
         due("key(LOW, 0)", x.key(LOW, 0), UNKNOWN);
         dueHeights(read("h;001,011,031,071,150,631,951,991"), 1, 2, 3, 4, 4, 4, 4, 3);
         dueHeights(read("d;001,021,051,081,261,531,801,991"), 1, 2, 2, 3, 4, 4, 4, 1);
-        dueHeights(read("s;001,031,041,191,391,991"), 1, 4, 1, 3, 1, 3);
+        dueHeights(read("s;001,031,041,101,191,391,701,991"), 1, 4, 1, 2, 3, 1, 4, 3);
         dueHeights(read("e;001,031,041,191,391,401,501,991"), 1, 2, 1, 3, 1, 2, 1, 4);
     }
 
@@ -571,6 +571,7 @@ public final class PromiseTest {
         due("split(21)", y.split(21), 3);
         LaneRow z = read(FIVE);
         due("split(50)", z.split(50), 1);
+        due("split(30), the second ROW has one", z.split(30), STATE);
         due("split(100) without a ROW", new LaneRow().split(100), OUTSIDE);
     }
 
@@ -668,6 +669,32 @@ public final class PromiseTest {
         due("best(3, 0)", three.best(3, 0), 3);
         due("best(4, 0)", three.best(4, 0), 1);
         due("best(4, 12)", three.best(4, 12), 2);
+        bestOfThreeLanes();
+    }
+
+    private static void bestOfThreeLanes() {
+        LaneRow x = read("h;001,021,041");
+        asks(x, 0, 1);
+        asks(x, 2, 2);
+        asks(x, 4, 4);
+        due("best(18, 0)", x.best(18, 0), 11);
+        due("best(18, 1)", x.best(18, 1), 6);
+        due("best(5, 0)", x.best(5, 0), 12);
+        for (int number = 0; number < 3; number++) {
+            due("best(18, 1" + number + ")", x.best(18, 10 + number), number + 1);
+        }
+        // A fourth LANE would make it 26; of the ways that make 27 the first by numbers is told.
+        LaneRow y = read("h;001,021,041,061");
+        asks(y, 0, 1);
+        asks(y, 2, 2);
+        asks(y, 4, 4);
+        asks(y, 6, 8);
+        due("best(18, 0)", y.best(18, 0), 27);
+        due("best(18, 1)", y.best(18, 1), 7);
+        int[] heights = {1, 1, 2, 3};
+        for (int number = 0; number < 4; number++) {
+            due("best(18, 1" + number + ")", y.best(18, 10 + number), heights[number]);
+        }
     }
 
     private static void change() {
@@ -836,6 +863,7 @@ public final class PromiseTest {
         due("count(LOW)", x.count(LOW), OUTSIDE);
         due("count(13) without a ROW", new LaneRow().count(13), OUTSIDE);
         due("LANES", read("t;1011,2012").count(1), 2);
+        due("all VALUES, from KEY 0 to KEY 99", read("t;0041,9952").count(3), 9);
     }
 
     private static long with(long h, long... numbers) {
