@@ -31,8 +31,13 @@ class Check {
         LaneRow make();
     }
 
+    /** Where the document is not at hand, the calls are tested, but not whether each sentence is. */
     static void readDocument() throws IOException {
-        document = Files.readString(DOCUMENT);
+        if (Files.isReadable(DOCUMENT)) {
+            document = Files.readString(DOCUMENT);
+        } else {
+            System.out.println("no " + DOCUMENT + ": what is quoted is not held against it");
+        }
     }
 
     /** Begins the test of a sentence of a part of the document (its heading's beginning). */
@@ -43,6 +48,9 @@ class Check {
         answersOfSentence = 0;
         sentence = part + ", \"" + words + "\"";
         sentences++;
+        if (document.isEmpty()) {
+            return;
+        }
         int[] bounds = boundsOf(part);
         int at = document.indexOf(words, bounds[0]);
         if (at < 0 || at + words.length() > bounds[1]) {

@@ -45,7 +45,9 @@ public final class EdgeTest extends Check {
         restore();
         count();
         digest();
-        Pattern bounds = Pattern.compile("(?<![a-z])\\([^)]+\\)|NONE|UNKNOWN|OUTSIDE|STATE|FULL|wrapping|at most|at least");
+        // Behind a small letter a bracket holds the arguments of a call.
+        Pattern bounds = Pattern.compile(
+            "(?<![a-z])\\([^)]+\\)|NONE|UNKNOWN|OUTSIDE|STATE|FULL|wrapping|at most|at least");
         for (int promise = 1; promise <= 28; promise++) {
             isAllQuoted("Promise " + promise + ":", bounds);
         }
@@ -565,6 +567,8 @@ public final class EdgeTest extends Check {
         Make hot = () -> asked(read(FIVE), 20, 99);
         due(asked(read(FIVE), 20, 98), 3, "ask", 20);
         refused(hot, FULL, "ask", 20);
+        refused(() -> asked(read(EIGHT), 0, 99), FULL, "ask", 0);
+        refused(() -> asked(read(EIGHT), 99, 99), FULL, "ask", 99);
         LaneRow other = hot.make();
         due(other, 5, "ask", 30);
         due(other, NONE, "ask", 21);
@@ -575,7 +579,8 @@ public final class EdgeTest extends Check {
     }
 
     private static void put() {
-        says(15, "A KEY comes to THE ROW, or is there, and gets another VALUE (and, by a plain LAW, HEIGHT): its number.");
+        says(15, "A KEY comes to THE ROW, or is there, and gets another VALUE (and, by a plain LAW, HEIGHT): "
+            + "its number.");
         LaneRow x = read(FIVE);
         due(x, 0, "put", 0, 0, 1);
         due(x, 6, "put", 99, 9, 4);
@@ -672,6 +677,12 @@ public final class EdgeTest extends Check {
         refused(RICH, STATE, "remove", 21);
         refused(RICH, STATE, "remove", 50);
         refused(RICH, STATE, "remove", 5);
+        LaneRow gone = asked(read(FIVE), 50, 1);
+        due(gone, 9, "remove", 50);
+        due(gone, STATE, "remove", 50);
+        due(gone, NONE, "find", 50, 0);
+        due(gone, 4, "put", 50, 1, 1);
+        dueKeys(gone, 3, 0, 0, 0, 0, 0);
 
         says(16, "or there are but 2");
         due(read("t;1011,2021,3031"), 2, "remove", 20);
@@ -1108,6 +1119,10 @@ public final class EdgeTest extends Check {
             due(new LaneRow(), 0, "count", what);
         }
         due(read("t;1011,2011"), 1, "count", 1);
+        LaneRow ends = asked(asked(read("t;0041,9952"), 0, 2), 99, 3);
+        due(ends, 9, "count", 3);
+        due(ends, 5, "count", 4);
+        due(asked(read(EIGHT), 0, 99), 99, "count", 4);
 
         says(27, "8 changes (put(), remove(), split(), join()), 9 what is SEEN, 10 letters of THE PAGE, "
             + "11 how often a ROW was read, 12 how often best() was done");
@@ -1202,7 +1217,8 @@ public final class EdgeTest extends Check {
             due("digest() of " + text, read(text).digest(), foldOf(toldOf(read(text), "")));
         }
 
-        says(28, "with a ROW of each NUMBER the LOOKS of nth(), COST, what change() tells for 0 to 2, letters of its tape");
+        says(28, "with a ROW of each NUMBER the LOOKS of nth(), COST, what change() tells for 0 to 2, "
+            + "letters of its tape");
         LaneRow warm = asked(read(FIVE), 20, 99);
         due("digest()", warm.digest(), foldOf(toldOf(asked(read(FIVE), 20, 99), "")));
         for (String law : LAWS) {

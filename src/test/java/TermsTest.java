@@ -30,7 +30,8 @@ public final class TermsTest extends Check {
         refusals();
         isAllQuoted(WHAT, Pattern.compile("\\([^)]+\\)|at most"));
         isAllQuoted(TERMS, Pattern.compile(
-            "\\([^)]+\\)|at most|least|of like ones|none, if|\\brest\\b|greate|together|NONE|UNKNOWN|OUTSIDE|STATE|FULL"));
+            "\\([^)]+\\)|at most|least|of like ones|none, if|\\brest\\b|greate|together"
+            + "|NONE|UNKNOWN|OUTSIDE|STATE|FULL"));
         end();
     }
 
@@ -108,20 +109,17 @@ public final class TermsTest extends Check {
 
     private static void calls() {
         says(WHAT, "An object is used for at most 512 calls after it has been made");
-        LaneRow x = new LaneRow();
-        int made = 0;
-        for (char c : EIGHT.toCharArray()) {
-            x.letter(c);
-            made++;
+        LaneRow x = read(EIGHT);
+        // A new page is blanked first.
+        int made = 1 + EIGHT.length() + 1;
+        for (; made + 4 <= 512; made += 4) {
+            due(x, NONE, "change", 0);
+            due(x, 1, "find", 30, 1);
+            due(x, 8, "count", 0);
+            due(x, 30, "nth", 3, 0);
         }
-        x.row();
-        made++;
-        while (made < 512) {
-            int turn = made % 4;
-            due(x, turn == 0 ? NONE : turn == 1 ? 1 : turn == 2 ? 8 : 30,
-                turn == 0 ? "change" : turn == 1 ? "find" : turn == 2 ? "count" : "nth",
-                turn == 0 ? new int[] {0} : turn == 1 ? new int[] {30, 1} : turn == 2 ? new int[] {0} : new int[] {3, 0});
-            made++;
+        for (; made < 512; made++) {
+            due(x, 7, "find", 99, 0);
         }
     }
 
@@ -318,8 +316,8 @@ public final class TermsTest extends Check {
     }
 
     private static void links() {
-        says(TERMS, "A LINK leads in a LANE from ahead of all, or from a KEY, to the next one: its WIDTH is by how many "
-            + "numbers that is farther on (from ahead of all: its number and 1)");
+        says(TERMS, "A LINK leads in a LANE from ahead of all, or from a KEY, to the next one: its WIDTH is "
+            + "by how many numbers that is farther on (from ahead of all: its number and 1)");
         LaneRow x = read(FIVE);
         int[] first = {1, 1, 3, 3};
         for (int lane = 0; lane <= 3; lane++) {
@@ -434,6 +432,16 @@ public final class TermsTest extends Check {
                 due(x, heights[number], "best", 18, 10 + number);
             }
         }
+        LaneRow first = read("h;001,021,041,061");
+        asked(first, 0, 3);
+        asked(first, 4, 1);
+        asked(first, 6, 2);
+        due(first, 10, "best", 18, 0);
+        due(first, 9, "best", 18, 1);
+        int[] firstHigh = {3, 1, 2, 3};
+        for (int number = 0; number < 4; number++) {
+            due(first, firstHigh[number], "best", 18, 10 + number);
+        }
         LaneRow high = asked(read("t;1014,2014"), 20, 1);
         due(high, 1, "best", 18, 0);
         due(high, 1, "best", 18, 10);
@@ -456,9 +464,9 @@ public final class TermsTest extends Check {
             due(cold, 1, "best", 18, 10 + number);
         }
         LaneRow last = asked(read("t;1011,2011,3011"), 30, 1);
-        int[] first = {1, 1, 2};
+        int[] lastHigh = {1, 1, 2};
         for (int number = 0; number < 3; number++) {
-            due(last, first[number], "best", 18, 10 + number);
+            due(last, lastHigh[number], "best", 18, 10 + number);
         }
         // 1, 2, 1 and 1, 3, 3 and more cost 1; what comes ahead of 1, 2, 1 costs 2 or 3.
         LaneRow middle = asked(read("t;1011,2011,3011"), 20, 1);
@@ -548,6 +556,7 @@ public final class TermsTest extends Check {
         LaneRow left = read(FIVE);
         left.see(1, 0, 4);
         due(left, 20, "key", 1, 7);
+        triesOfSomeLeft();
 
         says(TERMS, "of like ones the least");
         LaneRow one = read(FIVE);
@@ -560,6 +569,36 @@ public final class TermsTest extends Check {
         none.see(1, 20, 3);
         due(none, NONE, "key", 1, 7);
         due(none, 0, "key", 1, 6);
+    }
+
+    private static void dueTry(String text, int number, int key, int looks, int bits, int tried) {
+        LaneRow x = read(text);
+        x.see(number, key, looks);
+        due(x, bits, "key", number, 6);
+        due(x, tried, "key", number, 7);
+    }
+
+    /** Two or three are left; one TRY tells them all apart, or there is none that does. */
+    private static void triesOfSomeLeft() {
+        dueTry("t;5411,6513", 0, 74, 1, 3, 54);
+        dueTry("t;0912,6312", 1, 99, 2, 3, 10);
+        dueTry("t;0513,3312,4911,8212", 2, 87, 3, 5, 6);
+        dueTry("t;1413,2211,3112", 1, 73, 3, 6, 15);
+        dueTry("t;5213,9713", 1, 38, 3, 7, 53);
+        dueTry("t;3512,5914", 0, 97, 1, 7, 35);
+        dueTry("t;3113,4814,5712", 1, 20, 3, 7, 32);
+        dueTry("t;2813,5412,8312", 1, 7, 3, 7, 29);
+        dueTry("t;0513,2813,3712,6914", 1, 66, 6, 9, 28);
+        dueTry("t;2414,3313,4414,4512", 2, 81, 3, 9, 25);
+        dueTry("t;4813,6712,9713", 1, 97, 2, 11, 67);
+        dueTry("t;1514,4112,8511", 2, 90, 2, 12, 16);
+        dueTry("t;2814,4512,5413", 1, 99, 3, 12, 29);
+        dueTry("t;0914,6512,8311,8612,9112", 2, 99, 4, 13, 10);
+        dueTry("t;0214,6911,8612", 1, 91, 3, 14, 3);
+        dueTry("t;0514,2514,4312,7413", 1, 61, 6, 14, 6);
+        dueTry("t;4014,5313,5414", 2, 11, 4, 15, 41);
+        due(read("t;7414,7513,7613"), 75, "key", 2, 7);
+        due(read("t;0912,9413"), 9, "key", 0, 7);
     }
 
     private static void rounds() {
